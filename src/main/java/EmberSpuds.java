@@ -1326,7 +1326,9 @@ public final class EmberSpuds {
         int fitting, fewest, greatest;
 
         void search(Evening evening, Track track) {
-            Arrays.fill(isFitting, true);
+            for (int pair = 0; pair < isFitting.length; pair++) {
+                isFitting[pair] = true;
+            }
             for (int i = 0; i < evening.feltCount; i++) {
                 int x = evening.feltPlace[i];
                 int n = Math.min(SHORT_RUN, evening.feltRounds[i]);
