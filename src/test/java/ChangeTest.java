@@ -6,6 +6,7 @@ public final class ChangeTest {
         fanAndAsh();
         stoking();
         adding();
+        addingWhereOneWas();
         digging();
         turningAndWrapping();
         remembering();
@@ -70,6 +71,23 @@ public final class ChangeTest {
         }
     }
 
+    private static void addingWhereOneWas() {
+        EmberSpuds fire = Due.told("heat 1 80 0 0;");
+        fire.keep(0);
+        fire.add(9, 2);
+        fire.dig(0, 3);
+        fire.memo(0, 1);
+        fire.go(1);
+        fire.turn(0);
+        fire.go(1);
+        fire.back(0);
+        due.is("add(2, 1)", fire.add(2, 1), 1);
+        int[] raw = {2, 1, -4, 0, 0, 0, 0, 0, 0, -4};
+        for (int what = 0; what < raw.length; what++) {
+            due.is("spud(0, " + what + ") of a new one", fire.spud(0, what), raw[what]);
+        }
+    }
+
     private static void digging() {
         EmberSpuds fire = Due.told("spud 1 bare 8;out 1 bare;");
         due.is("dig(1, 8)", fire.dig(1, 8), -2);
@@ -101,7 +119,8 @@ public final class ChangeTest {
         due.is("turn(1)", fire.turn(1), -1);
         due.is("turn(-1)", fire.turn(-1), -1);
         due.is("wrap(0, 2)", fire.wrap(0, 2), 0);
-        due.is("wrap(0, 1)", fire.wrap(0, 1), 2);
+        due.is("wrap(0, 0)", fire.wrap(0, 0), 2);
+        due.is("wrap(0, 1)", fire.wrap(0, 1), 0);
         due.is("wrap(0, 3)", fire.wrap(0, 3), -1);
         due.is("wrap(0, -1)", fire.wrap(0, -1), -1);
         due.is("wrap(1, 0)", fire.wrap(1, 0), -1);

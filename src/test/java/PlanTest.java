@@ -6,6 +6,7 @@ public final class PlanTest {
         places();
         placesByOrder();
         placesOfOut();
+        atTheEdgeOfBlack();
         flip();
         least();
         best();
@@ -61,6 +62,24 @@ public final class PlanTest {
         due.is("places(2, 0)", fire.places(2, 0), 2);
         due.is("places(2, 10)", fire.places(2, 10), 0);
         due.is("places(2, 11)", fire.places(2, 11), 1);
+    }
+
+    private static void atTheEdgeOfBlack() {
+        EmberSpuds fire = Due.told("fire 3 0 0;heat 1 24 16 0;spud 5 bare 3;");
+        fire.go(13);
+        due.is("the side below", fire.spud(0, 4), 39);
+        due.is("places(1, 0)", fire.places(1, 0), 1);
+        due.is("places(1, 10)", fire.places(1, 10), 0);
+        due.is("flip(0, 1)", fire.flip(0, 1), 0);
+        due.is("flip(0, 13)", fire.flip(0, 13), 0);
+        due.is("flip(0, 14)", fire.flip(0, 14), -4);
+        fire.turn(0);
+        due.is("turned places(13, 0)", fire.places(13, 0), 1);
+        due.is("turned flip(0, 1)", fire.flip(0, 1), -4);
+        fire.fan(0, 8);
+        due.is("turned places(20, 10)", fire.places(20, 10), 0);
+        fire.turn(0);
+        due.is("places(1, 10) behind it", fire.places(1, 10), 1);
     }
 
     private static void flip() {

@@ -4,6 +4,7 @@ public final class RoundTest {
 
     public static void main(String[] args) {
         baking();
+        bakingByEachWrap();
         bakingAtItsBounds();
         burning();
         woodInOrder();
@@ -35,6 +36,21 @@ public final class RoundTest {
         baked(fire, 0, 30, 18, 0);
         baked(fire, 1, 26, 6, 6);
         baked(fire, 2, 15, 7, 0);
+    }
+
+    private static void bakingByEachWrap() {
+        int[] coreBy = {5, 7, 6};
+        int[] sideBy = {8, 16, 12};
+        for (int wrap = 0; wrap < 3; wrap++) {
+            for (int heat = 0; heat <= 99; heat++) {
+                EmberSpuds fire = new EmberSpuds();
+                fire.add(9, wrap);
+                fire.dig(0, 4);
+                fire.fan(4, heat);
+                fire.go(1);
+                baked(fire, 0, heat / coreBy[wrap], heat / sideBy[wrap], 0);
+            }
+        }
     }
 
     private static void bakingAtItsBounds() {

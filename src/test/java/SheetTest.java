@@ -4,6 +4,7 @@ public final class SheetTest {
 
     public static void main(String[] args) {
         sheets();
+        newRowsAreOfZeros();
         laying();
         lowestBits();
         reading();
@@ -31,6 +32,23 @@ public final class SheetTest {
         due.is("the row stays", fire.count(7), 40);
         due.is("sheet(3, 1, 2)", fire.sheet(3, 1, 2), 1);
         due.is("count(7)", fire.count(7), 40);
+    }
+
+    private static void newRowsAreOfZeros() {
+        EmberSpuds fire = new EmberSpuds();
+        fire.sheet(0, 0, 40);
+        for (int i = 0; i < 40; i++) {
+            fire.lay(0, i, 2);
+        }
+        fire.sheet(0, 0, 40);
+        for (int i = 0; i < 20; i++) {
+            due.is("a new row at " + 2 * i, fire.read(0, 0, 2 * i, 1), -20);
+            fire.lay(0, 2 * i, 1);
+        }
+        due.is("wraps of 0", fire.read(0, 0, 28, 6), 6);
+        for (int p = 0; p < 6; p++) {
+            due.is("spud(" + p + ", 1)", fire.spud(p, 1), 0);
+        }
     }
 
     private static void laying() {

@@ -13,6 +13,7 @@ public final class TextTest {
         faultOfTooMany();
         faultOfNotThere();
         firstFaultCounts();
+        oneTextBehindAnother();
         whatAFaultLeaves();
         whatATextReplaces();
         asking();
@@ -116,6 +117,11 @@ public final class TextTest {
         refused("12", 2, 0);
         refused("fir 3 1 1;", 2, 0);
         refused("fires 3 1 1;", 2, 0);
+        refused("dire 3 1 1;", 2, 0);
+        refused("spud 3 care 0;", 2, 7);
+        refused("zoo 3;", 2, 0);
+        refused("a", 2, 0);
+        refused("fire 3 1 1z;", 2, 10);
         refused("firefire 3 1 1;", 2, 0);
         refused("bare", 2, 0);
         refused("fire 3 1 1;;", 2, 11);
@@ -195,6 +201,30 @@ public final class TextTest {
         refused("fire 2 1 ?;", 3, 5);
         refused("spud 1 bare 4;spud 0 clay 4;", 3, 19);
         refused("spud 1 bare 4;spud 1 clay 4?", 4, 26);
+    }
+
+    private static void oneTextBehindAnother() {
+        EmberSpuds fire = new EmberSpuds();
+        due.is("not there", Due.tell(fire, "heat 7 1 1 1;spud 1 bare 23;memo 5 7;wood 0 1 1;"), -58);
+        due.is("fault()", fire.fault(), 6);
+        String text = "fire 4 1 1;heat 2 1 1 1;spud 1 bare 8;memo 0 3;wood 3 9 9;";
+        for (int i = 0; i < 8; i++) {
+            due.is("told again", Due.tell(fire, text), 5);
+            due.is("rule(0)", fire.rule(0), 4);
+            due.is("rule(3)", fire.rule(3), 1);
+            due.is("rule(5)", fire.rule(5), 1);
+            due.is("spud(0, 9)", fire.spud(0, 9), 3);
+            due.is("count(8)", fire.count(8), 3);
+        }
+        due.is("another", Due.tell(fire, "spud 2 clay 3;"), 1);
+        due.is("spud(0, 9)", fire.spud(0, 9), -4);
+        due.is("count(8)", fire.count(8), 0);
+        fire.fan(3, 99);
+        fire.go(1);
+        fire.turn(0);
+        fire.go(1);
+        due.is("another", Due.tell(fire, "spud 2 clay 3;"), 1);
+        due.is("raw", fire.spud(0, 3) + fire.spud(0, 4) + fire.spud(0, 5), 0);
     }
 
     private static void whatAFaultLeaves() {
