@@ -10,7 +10,7 @@ public final class CrossTest {
 
     public static void main(String[] args) {
         for (int i = 0; i < 400; i++) {
-            EmberSpuds fire = randomFire(6);
+            EmberSpuds fire = randomFire(3 + below(6), below(7));
             watch(fire);
             flip(fire);
             least(fire);
@@ -19,7 +19,10 @@ public final class CrossTest {
             next(fire);
         }
         for (int i = 0; i < 150; i++) {
-            places(randomFire(4));
+            places(randomFire(3 + below(2), below(5)));
+        }
+        for (int i = 0; i < 12; i++) {
+            places(randomFire(3, 6));
         }
         due.close();
     }
@@ -28,9 +31,8 @@ public final class CrossTest {
         return random.nextInt(n);
     }
 
-    private static EmberSpuds randomFire(int mostSpuds) {
+    private static EmberSpuds randomFire(int cells, int spuds) {
         EmberSpuds fire = new EmberSpuds();
-        int cells = 3 + below(mostSpuds == 6 ? 6 : 2);
         int most = 1 + below(99);
         Due.tell(fire, "fire " + cells + " " + below(4) + " " + below(5) + ";");
         for (int x = 0; x < 3 * cells; x++) {
@@ -39,7 +41,7 @@ public final class CrossTest {
         for (int i = below(7); i > 0; i--) {
             fire.stoke(below(cells), 1 + below(99), 1 + below(9));
         }
-        for (int p = below(mostSpuds + 1); p > 0; p--) {
+        for (int p = spuds; p > 0; p--) {
             fire.add(1 + below(6), below(3));
             fire.dig(fire.rule(5) - 1, below(3 * cells));
             fire.memo(fire.rule(5) - 1, below(cells + 1) - 1);

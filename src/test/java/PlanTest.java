@@ -6,6 +6,7 @@ public final class PlanTest {
         places();
         placesByOrder();
         placesOfOut();
+        placesOfSixInEightCells();
         atTheEdgeOfBlack();
         flip();
         least();
@@ -62,6 +63,17 @@ public final class PlanTest {
         due.is("places(2, 0)", fire.places(2, 0), 2);
         due.is("places(2, 10)", fire.places(2, 10), 0);
         due.is("places(2, 11)", fire.places(2, 11), 1);
+    }
+
+    private static void placesOfSixInEightCells() {
+        EmberSpuds fire = Due.told("fire 8 0 0;heat 7 80 80 80;out 4 bare;out 4 bare;out 4 bare;out 4 bare;"
+                + "out 4 bare;out 4 bare;");
+        due.is("places(3, 0) of six", fire.places(3, 0), 3);
+        int[] each = {0, 1, 2, 21, 22, 23};
+        for (int p = 0; p < 6; p++) {
+            due.is("places(3, " + (10 + p) + ") of six", fire.places(3, 10 + p), each[p]);
+        }
+        due.is("places(3, 16)", fire.places(3, 16), -1);
     }
 
     private static void atTheEdgeOfBlack() {
