@@ -341,8 +341,8 @@ public final class EmberSpuds {
         fallSearch.search(now, track);
         switch (what) {
             case 0: return fallSearch.fitting;
-            case 1: return fallSearch.fewest;
-            default: return fallSearch.greatest;
+            case 1: return fallSearch.leastPair;
+            default: return fallSearch.greatestPair;
         }
     }
 
@@ -1323,7 +1323,7 @@ public final class EmberSpuds {
     private static final class FallSearch {
         final boolean[] isFitting = new boolean[100];
         final boolean[] isLossFitting = new boolean[2 * MOST_LOSS + 1];
-        int fitting, fewest, greatest;
+        int fitting, leastPair, greatestPair;
 
         void search(Evening evening, Track track) {
             for (int pair = 0; pair < isFitting.length; pair++) {
@@ -1351,12 +1351,12 @@ public final class EmberSpuds {
 
         void sumUp() {
             fitting = 0;
-            fewest = NONE;
-            greatest = NONE;
+            leastPair = NONE;
+            greatestPair = NONE;
             for (int pair = 0; pair < isFitting.length; pair++) {
                 if (isFitting[pair]) {
-                    fewest = fitting == 0 ? pair : fewest;
-                    greatest = pair;
+                    leastPair = fitting == 0 ? pair : leastPair;
+                    greatestPair = pair;
                     fitting++;
                 }
             }
