@@ -485,10 +485,10 @@ public final class EmberSpuds {
         }
         Sheet row = sheets[k];
         int before = now.spudCount;
-        int found = row.castFault(lane);
+        int found = 0;
         for (int i = 0; i < n && found == 0; i++) {
             int at = f + 2 * i;
-            found = row.pairFault(at);
+            found = row.pairFault(lane, at);
             if (found == 0 && !bringSort(row.valueAt(at), row.valueAt(at + 1))) {
                 now.spudCount = before;
                 return REFUSED_BASE - i;
@@ -1434,14 +1434,13 @@ public final class EmberSpuds {
             return i >= 0 && i < length && i < values.length ? 0 : FAULT_INDEX;
         }
 
-        int pairFault(int i) {
+        /** Nothing is of no lane, so it is never CAST; a row of another lane is, whatever i is. */
+        int pairFault(int asLane, int i) {
+            if (length != NONE && lane != asLane) {
+                return FAULT_CAST;
+            }
             int found = faultAt(i);
             return found != 0 ? found : faultAt(i + 1);
-        }
-
-        /** The machine casts nothing to any lane: that is found only when a cell is asked for. */
-        int castFault(int asLane) {
-            return length == NONE || lane == asLane ? 0 : FAULT_CAST;
         }
 
         int valueAt(int i) {

@@ -177,13 +177,24 @@ public final class SheetTest {
         due.is("torn() stays", bad.torn(), 3);
     }
 
-    /** The machine casts before it asks for a cell, and it casts nothing to any lane. */
+    /** A read() of no potato asks for no cell: no fault, and that of the read() before is gone. */
     private static void nothingToRead() {
         EmberSpuds fire = new EmberSpuds();
-        fire.sheet(0, 0, 4);
-        tears(fire, 0, 0, 99, 0, 0, 0);
-        tears(fire, 0, 1, 0, 0, 0, 3);
-        tears(fire, 1, 1, 0, 0, 0, 0);
+        int[] starts = {0, 3, 4, 99, -1, Integer.MAX_VALUE, Integer.MIN_VALUE};
+        for (int lane = 0; lane < 3; lane++) {
+            fire.sheet(0, lane, 4);
+            fire.sheet(1, lane, 0);
+            for (int asLane = 0; asLane < 3; asLane++) {
+                for (int f : starts) {
+                    tears(fire, 0, (lane + 1) % 3, f, 1, 0, 3);
+                    tears(fire, 0, asLane, f, 0, 0, 0);
+                    tears(fire, 2, asLane, f, 1, 0, 1);
+                    tears(fire, 1, asLane, f, 0, 0, 0);
+                    tears(fire, 1, lane, f, 1, 0, 2);
+                    tears(fire, 2, asLane, f, 0, 0, 0);
+                }
+            }
+        }
     }
 
     private static void counting() {
