@@ -202,6 +202,9 @@ public final class EdgePlanTest {
             return fire;
         };
         edge.leaves("a GOOD one that is OUT", out, f -> f.flip(0, 20), 0);
+        EmberSpuds two = Due.told("fire 3 0 0;heat 1 80 0 0;spud 1 bare 3;out 1 bare;");
+        edge.is("one that bakes", two.flip(0, 3), 0);
+        edge.is("behind it one that is OUT does not", two.flip(1, 3), -4);
     }
 
     private static EmberSpuds inCold(int size, int place) {

@@ -242,7 +242,7 @@ public final class EdgeTextTest {
             {";", "fire 3 0 0;heat 0 1 1 1;wood 0 1 1;spud 1 bare 0;memo 0 0"},
             {"fire 2", "fire 3 0 0;heat 0 1 1 1;wood 0 1 1;spud 1 bare 0;memo 0 8;"},
             {"fire 3 0 0;fire", "fire 3 0 0;heat 0 1 1 1;wood 0 1 1;spud 1 bare 0;memo 0 0;memo 0 0;"},
-            {"wood 0 1 1;".repeat(7), "memo 0 0;heat 0 1 1 1;" + "out 1 bare;".repeat(7)},
+            {"wood 0 1 1;".repeat(7), "memo 0 0;heat 0 1 1 1;" + "out1bare;".repeat(7)},
             {"memo 0 0;", "fire 3 0 0;heat 0 1 1 1;wood 0 1 1;spud 1 bare 0;memo 0 3;"}};
         for (String[] pair : both) {
             EmberSpuds shortly = richOf(pair[0]);

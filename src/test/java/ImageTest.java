@@ -31,12 +31,17 @@ public final class ImageTest {
         for (int what = 0; what < 7; what++) {
             all.append(fire.rule(what)).append(' ');
         }
-        for (int x = 0; x < 24; x++) {
+        for (int x = 0; x < 12; x++) {
             all.append(fire.heat(x)).append(' ');
         }
-        for (int i = 0; i < 6; i++) {
+        for (int i = 0; i < fire.rule(3); i++) {
+            for (int what = 0; what < 3; what++) {
+                all.append(fire.wood(i, what)).append(' ');
+            }
+        }
+        for (int p = 0; p < fire.rule(5); p++) {
             for (int what = 0; what < 10; what++) {
-                all.append(fire.wood(i, what)).append(' ').append(fire.spud(i, what)).append(' ');
+                all.append(fire.spud(p, what)).append(' ');
             }
         }
         all.append(fire.count(4)).append(' ').append(fire.fits(0)).append(' ').append(fire.fits(1));

@@ -179,12 +179,12 @@ public final class SheetTest {
 
     /** A read() of no potato asks for no cell: no fault, and that of the read() before is gone. */
     private static void nothingToRead() {
-        EmberSpuds fire = new EmberSpuds();
         int[] starts = {0, 3, 4, 99, -1, Integer.MAX_VALUE, Integer.MIN_VALUE};
         for (int lane = 0; lane < 3; lane++) {
-            fire.sheet(0, lane, 4);
-            fire.sheet(1, lane, 0);
             for (int asLane = 0; asLane < 3; asLane++) {
+                EmberSpuds fire = new EmberSpuds();
+                fire.sheet(0, lane, 4);
+                fire.sheet(1, lane, 0);
                 for (int f : starts) {
                     tears(fire, 0, (lane + 1) % 3, f, 1, 0, 3);
                     tears(fire, 0, asLane, f, 0, 0, 0);

@@ -208,7 +208,7 @@ public final class TextTest {
         due.is("not there", Due.tell(fire, "heat 7 1 1 1;spud 1 bare 23;memo 5 7;wood 0 1 1;"), -58);
         due.is("fault()", fire.fault(), 6);
         String text = "fire 4 1 1;heat 2 1 1 1;spud 1 bare 8;memo 0 3;wood 3 9 9;";
-        for (int i = 0; i < 8; i++) {
+        for (int i = 0; i < 5; i++) {
             due.is("told again", Due.tell(fire, text), 5);
             due.is("rule(0)", fire.rule(0), 4);
             due.is("rule(3)", fire.rule(3), 1);

@@ -20,6 +20,8 @@ public final class WildTest {
     private static final Due due = new Due("WildTest");
     private static int taken;
     private static int torn;
+    /** How many calls the object of this run is used for: 512 at most. */
+    private static int made;
 
     public static void main(String[] args) {
         List<Method> calls = new ArrayList<>();
@@ -42,10 +44,13 @@ public final class WildTest {
     private static long run(List<Method> calls, Random random) {
         EmberSpuds fire = new EmberSpuds();
         long sum = 0;
-        for (int i = 0; i < 300; i++) {
-            if (random.nextInt(12) == 0) {
+        made = 0;
+        while (made < 512) {
+            // A text takes up to a whole tape of bytes, and what lies ahead of it and behind.
+            if (random.nextInt(24) == 0 && made < 512 - 170) {
                 tell(fire, random);
             }
+            made++;
             Method method = calls.get(random.nextInt(calls.size()));
             Object[] values = new Object[method.getParameterCount()];
             for (int a = 0; a < values.length; a++) {
@@ -63,10 +68,13 @@ public final class WildTest {
 
     private static void tell(EmberSpuds fire, Random random) {
         fire.end(0);
+        made += 2;
         boolean isWild = random.nextBoolean();
         String[] parts = isWild ? WORDS : LINES;
         for (int i = random.nextInt(10); i > 0; i--) {
-            Due.feedAll(fire, parts[random.nextInt(parts.length)]);
+            String part = parts[random.nextInt(parts.length)];
+            Due.feedAll(fire, part);
+            made += part.length();
         }
         if (fire.text() >= 0) {
             taken++;
