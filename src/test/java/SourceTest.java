@@ -30,6 +30,7 @@ public final class SourceTest {
         String source = Files.readString(Path.of("src/main/java/EmberSpuds.java"));
         words(source);
         methods(source);
+        makesNoObjects(source);
         due.close();
     }
 
@@ -118,5 +119,18 @@ public final class SourceTest {
                 begin = -1;
             }
         }
+    }
+    /** Rows are made with the object: new stands in the first value of a field or in Evening() alone. */
+    private static void makesNoObjects(String source) {
+        int made = 0;
+        for (String line : code(source).split("\n")) {
+            if (Pattern.compile("\\bnew\\b").matcher(line).find()) {
+                made++;
+                boolean isField = line.matches("^( {4}private| {8}) ?final [\\w\\[\\]]+ \\w+ = .*;$");
+                due.holds(line.trim() + " is made with the object",
+                        isField || line.trim().equals("spuds[p] = new Spud();"));
+            }
+        }
+        due.holds("rows are made at all", made > 10);
     }
 }
